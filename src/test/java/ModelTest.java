@@ -18,7 +18,7 @@ public final class ModelTest {
         for (int run = 0; run < runs; run++) {
             oneRun(run);
         }
-        for (int i = 0; i < 20 * runs; i++) {
+        for (int i = 0; i < 10 * runs; i++) {
             oneBrokenText(i);
         }
         Checks.close("ModelTest");
@@ -39,6 +39,7 @@ public final class ModelTest {
             oneCall();
         }
         load(drawText());
+        wholeHandlers();
         for (int call = 0; call < 250; call++) {
             label = "run " + run + " call " + call;
             oneCall();
@@ -55,7 +56,10 @@ public final class ModelTest {
             breakText(text);
         }
         load(text.toString());
-        whole();
+        if (m.state != null) {
+            whole();
+            wholeHandlers();
+        }
     }
 
     private static void breakText(StringBuilder text) {
@@ -363,6 +367,19 @@ public final class ModelTest {
         }
     }
 
+    private static void wholeHandlers() {
+        for (int i = -1; i <= programs; i++) {
+            int p = i;
+            for (int j = -1; j <= kinds; j++) {
+                int k = j;
+                for (int w = -1; w <= 50; w++) {
+                    int what = w;
+                    same("handler " + p + " " + k + " " + w, () -> x.handler(p, k, what), () -> m.handler(p, k, what));
+                }
+            }
+        }
+    }
+
     private static void wholeProgram(int p) {
         same("next " + p, () -> x.next(p), () -> m.next(p));
         same("tiredest " + p, () -> x.tiredest(p), () -> m.tiredest(p));
@@ -374,10 +391,6 @@ public final class ModelTest {
             int k = i;
             same("urgency " + p + " " + k, () -> x.urgency(p, k), () -> m.urgency(p, k));
             same("tiredness " + p + " " + k, () -> x.tiredness(p, k), () -> m.tiredness(p, k));
-            for (int w = -1; w <= 50; w++) {
-                int what = w;
-                same("handler " + p + " " + k + " " + w, () -> x.handler(p, k, what), () -> m.handler(p, k, what));
-            }
         }
         for (int i = -1; i <= 13; i++) {
             int index = i;
