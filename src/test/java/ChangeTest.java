@@ -17,6 +17,7 @@ public final class ChangeTest {
         setWhileRunning();
         undo();
         undoOfEach();
+        undoOfManyEnds();
         onlyEight();
         exceptionsAreNoChange();
         saveAndRestore();
@@ -285,43 +286,6 @@ public final class ChangeTest {
         Checks.state("promise 47: none", () -> x.undo());
     }
 
-    private static String told(FadingSignals x) {
-        StringBuilder all = new StringBuilder();
-        for (int what = 0; what < 14; what++) {
-            all.append(x.count(what)).append(' ');
-        }
-        for (int what = 0; what < 4; what++) {
-            all.append(x.setting(what)).append(' ');
-        }
-        for (int k = 0; k < x.count(0); k++) {
-            all.append(x.kind(k, 0)).append(' ').append(x.kind(k, 1)).append(' ').append(x.kind(k, 2)).append(' ');
-        }
-        for (int p = 0; p < x.count(1); p++) {
-            for (int what = 0; what < 8; what++) {
-                all.append(x.program(p, what)).append(' ');
-            }
-            for (int k = 0; k < x.count(0); k++) {
-                all.append(x.tiredness(p, k)).append(' ');
-            }
-            for (int i = 0; i < x.program(p, 0); i++) {
-                for (int what = 0; what < 5; what++) {
-                    all.append(x.queue(p, i, what)).append(' ');
-                }
-            }
-            for (int i = 0; i < x.program(p, 1); i++) {
-                for (int what = 0; what < 5; what++) {
-                    all.append(x.running(p, i, what)).append(' ');
-                }
-            }
-        }
-        for (int i = 0; i < x.count(13); i++) {
-            for (int what = 0; what < 5; what++) {
-                all.append(x.end(i, what)).append(' ');
-            }
-        }
-        return all.append(x.meanWait()).append(' ').append(x.handledShare()).toString();
-    }
-
     private static FadingSignals busy() {
         FadingSignals x = Checks.loaded(TEXT);
         x.tick(4);
@@ -336,16 +300,31 @@ public final class ChangeTest {
             "set", "several"};
         for (int i = 0; i < names.length; i++) {
             FadingSignals x = busy();
-            String before = told(x);
+            String before = Checks.told(x);
             int changes = x.undoable();
             change(x, i);
-            Checks.due("promise 47: " + names[i] + " shows", told(x).equals(before), false);
+            Checks.due("promise 47: " + names[i] + " shows", Checks.told(x).equals(before), false);
             for (int more = x.undoable() - changes; more > 0; more--) {
                 x.undo();
             }
-            Checks.due("promise 47: " + names[i] + " is undone", told(x), before);
+            Checks.due("promise 47: " + names[i] + " is undone", Checks.told(x), before);
             Checks.due("promise 48: as many as before", x.undoable(), changes);
         }
+    }
+
+    private static void undoOfManyEnds() {
+        FadingSignals x = Checks.loaded("hall 1 0 50 2;kind a 20 0 30;program p;handle p a 1 raise a p 1;send p a 5");
+        x.send(0, 0, 7);
+        x.drop(1);
+        x.tick(2);
+        x.save(0);
+        String before = Checks.told(x);
+        Checks.due("promise 39: more ends than can be told", x.tick(100), 100);
+        x.undo();
+        Checks.due("promise 47: the ends that can be told", Checks.told(x), before);
+        x.tick(100);
+        x.restore(0);
+        Checks.due("promise 50: the ends that can be told", Checks.told(x), before);
     }
 
     private static void change(FadingSignals x, int i) {
@@ -409,7 +388,7 @@ public final class ChangeTest {
     private static void exceptionsAreNoChange() {
         FadingSignals x = busy();
         x.writeEnds();
-        String before = told(x);
+        String before = Checks.told(x);
         int changes = x.undoable();
         Checks.outcome(() -> x.tick(0));
         Checks.outcome(() -> x.send(0, 0, 1000));
@@ -422,31 +401,31 @@ public final class ChangeTest {
         Checks.outcome(() -> x.restore(0));
         Checks.outcome(() -> x.save(2));
         Checks.outcome(() -> x.load(9));
-        Checks.due("an exception changes nothing", told(x), before);
+        Checks.due("an exception changes nothing", Checks.told(x), before);
         Checks.due("an exception is no change", x.undoable(), changes);
     }
 
     private static void saveAndRestore() {
         FadingSignals x = busy();
-        String first = told(x);
+        String first = Checks.told(x);
         Checks.due("promise 49: the time", x.save(1), 5);
         x.tick(3);
         x.set(1, 9);
         x.setKind(0, 0, 77);
-        String second = told(x);
+        String second = Checks.told(x);
         Checks.due("promise 49: the time", x.save(0), 8);
         x.clear(0);
         x.tick(50);
         Checks.due("promise 50: the time", x.restore(1), 5);
-        Checks.due("promise 50: all that is told", told(x), first);
+        Checks.due("promise 50: all that is told", Checks.told(x), first);
         Checks.due("promise 50: nothing can be undone", x.undoable(), 0);
         Checks.state("promise 50: nothing can be undone", () -> x.undo());
         x.tick(9);
         Checks.due("promise 50: the other slot", x.restore(0), 8);
-        Checks.due("promise 50: all that is told", told(x), second);
+        Checks.due("promise 50: all that is told", Checks.told(x), second);
         x.tick(1);
         Checks.due("promise 50: it stays saved", x.restore(1), 5);
-        Checks.due("promise 50: it stays saved, whole", told(x), first);
+        Checks.due("promise 50: it stays saved, whole", Checks.told(x), first);
         x.tick(1);
         Checks.due("promise 49: in place of what was saved there", x.save(1), 6);
         x.restore(0);

@@ -93,4 +93,45 @@ final class Checks {
         }
         return text.toString();
     }
+
+    /** All that is told of a hall, in one text. */
+    static String told(FadingSignals x) {
+        StringBuilder all = new StringBuilder();
+        for (int what = 0; what < 14; what++) {
+            all.append(x.count(what)).append(' ');
+        }
+        for (int what = 0; what < 4; what++) {
+            all.append(x.setting(what)).append(' ');
+        }
+        for (int k = 0; k < x.count(0); k++) {
+            all.append(x.kind(k, 0)).append(' ').append(x.kind(k, 1)).append(' ').append(x.kind(k, 2)).append(' ');
+        }
+        for (int p = 0; p < x.count(1); p++) {
+            for (int what = 0; what < 8; what++) {
+                all.append(x.program(p, what)).append(' ');
+            }
+            for (int k = 0; k < x.count(0); k++) {
+                all.append(x.tiredness(p, k)).append(' ');
+                for (int what = 0; what < 50; what++) {
+                    all.append(x.handler(p, k, what)).append(' ');
+                }
+            }
+            for (int i = 0; i < x.program(p, 0); i++) {
+                for (int what = 0; what < 5; what++) {
+                    all.append(x.queue(p, i, what)).append(' ');
+                }
+            }
+            for (int i = 0; i < x.program(p, 1); i++) {
+                for (int what = 0; what < 5; what++) {
+                    all.append(x.running(p, i, what)).append(' ');
+                }
+            }
+        }
+        for (int i = 0; i < x.count(13); i++) {
+            for (int what = 0; what < 5; what++) {
+                all.append(x.end(i, what)).append(' ');
+            }
+        }
+        return all.append(x.meanWait()).append(' ').append(x.handledShare()).toString();
+    }
 }

@@ -10,6 +10,8 @@ public final class InputTest {
         loading();
         failedLoading();
         freshAfterLoading();
+        freshAfterManyLoadings();
+        fullHouse();
         tokens();
         wrongTokens();
         bounds();
@@ -164,6 +166,75 @@ public final class InputTest {
         Checks.due("promise 3: no NAME of the first hall", Checks.find(x, true, "a"), -1);
     }
 
+    /** Whatever was loaded and done before, a loaded hall is that of a new object. */
+    private static void freshAfterManyLoadings() {
+        String busy = "hall 4 0 2 2;kind a 5 1 9;kind b 9 9 9;program p;program q;handle p a 1 mask a raise a q 5"
+                + ";handle p b 5 drop a;handle q a 7;hide q b;send p a 3;send p a 4;send p a 5;send q a 1;send p b 1";
+        String other = "hall 1 9 7 3;kind c 44 4 4;kind d 1 0 1;program r;program s;send r d 9";
+        String want = Checks.told(Checks.loaded(other));
+        FadingSignals x = Checks.loaded(busy);
+        for (int i = 0; i < 3; i++) {
+            x.tick(3);
+            x.send(0, 0, 1);
+            x.endIn(x.count(4) - 1);
+            Checks.argument("promise 3: a failure", () -> Checks.load(x, busy + ";"));
+            Checks.load(x, other);
+            Checks.due("promise 3: a hall like new, behind a failure", Checks.told(x), want);
+            Checks.load(x, busy);
+            x.tick(3);
+            x.calmIn();
+            Checks.load(x, other);
+            Checks.due("promise 3: a hall like new, behind what would be", Checks.told(x), want);
+            Checks.load(x, busy);
+            x.tick(3);
+            Checks.load(x, other);
+            Checks.load(x, other);
+            Checks.due("promise 3: a hall like new, behind two of them", Checks.told(x), want);
+            Checks.load(x, busy);
+        }
+        Checks.due("promise 3: the busy one, too", Checks.told(x), Checks.told(Checks.loaded(busy)));
+    }
+
+    /** Eight kinds and six programs, all with numbers of their own, and handlers of the last of them. */
+    private static void fullHouse() {
+        StringBuilder text = new StringBuilder(HEAD);
+        for (int k = 0; k < 8; k++) {
+            text.append(";kind ").append((char) ('s' + k)).append(' ').append(90 + k).append(' ').append(10 + k)
+                    .append(' ').append(100 + k);
+        }
+        for (int p = 0; p < 6; p++) {
+            text.append(";program ").append((char) ('u' + p));
+        }
+        text.append(";handle z z 20 raise z z 999 mask z unmask z drop z;handle u s 1 drop s");
+        for (int p = 0; p < 6; p++) {
+            text.append(";hide ").append((char) ('u' + p)).append(' ').append((char) ('s' + p));
+            text.append(";send ").append((char) ('u' + p)).append(' ').append((char) ('s' + p)).append(" 1");
+        }
+        FadingSignals x = Checks.loaded(text.toString());
+        for (int k = 0; k < 8; k++) {
+            Checks.due("eight kinds", x.kind(k, 0) * 100000 + x.kind(k, 1) * 1000 + x.kind(k, 2),
+                    (90 + k) * 100000 + (10 + k) * 1000 + 100 + k);
+            Checks.due("eight names", Checks.find(x, true, "" + (char) ('s' + k)), k);
+        }
+        for (int p = 0; p < 6; p++) {
+            Checks.due("six names", Checks.find(x, false, "" + (char) ('u' + p)), p);
+            Checks.due("six masks", x.program(p, 2), 1 << p);
+            Checks.due("six queues", x.queue(p, 0, 0), p);
+            Checks.due("six counts", x.program(p, 4), 1);
+            x.clear(p);
+            Checks.due("six counts of ends", x.program(p, 7), 1);
+        }
+        int[] acts = {0, 7, 5, 999, 1, 7, -1, -1, 2, 7, -1, -1, 3, 7, -1, -1};
+        for (int i = 0; i < acts.length; i++) {
+            Checks.due("the last act of all", x.handler(5, 7, 10 * (i / 4) + 10 + i % 4), acts[i]);
+        }
+        Checks.due("the first handler of all", x.handler(0, 0, 10), 3);
+        x.send(5, 7, 5);
+        x.tick(20);
+        Checks.due("the last program is tired of the last kind", x.tiredness(5, 7), 17);
+        Checks.due("it sent a signal", x.program(5, 5), 1);
+    }
+
     private static void fine(String text) {
         FadingSignals x = new FadingSignals();
         Checks.answers("promise 3: " + text, "fine", () -> {
@@ -187,6 +258,7 @@ public final class InputTest {
         fine("hall2 5 4 2;kind a5 1 9;program p;handle p a3mask a");
         fine("hall 002 005 04 2;kind a 099 020 200");
         fine("hall 1 0 1 1");
+        fine("hall 1 0 1 1;kind zabcdyz 9 9 9;program azbycxz");
         fine("hall 4 50 50 12");
         fine(HEAD + ";kind kind 1 0 1;kind raise 99 20 200;kind mask 5 5 5;program program;program hall"
                 + ";handle hall raise 20 raise mask program 999 mask raise unmask kind drop mask;hide hall mask"
@@ -201,6 +273,14 @@ public final class InputTest {
         wrong("hal 2 5 4 2", 1, 0);
         wrong("halls 2 5 4 2", 1, 0);
         wrong("5", 1, 0);
+        wrong("fall 2 5 4 2", 1, 0);
+        wrong("hali 2 5 4 2", 1, 0);
+        wrong(BOTH + ";handle p a 3 bask a", 1, 49);
+        wrong(BOTH + ";hid p a", 1, 36);
+        wrong("hall 2 5 4 2;kind a{ 5 1 9", 1, 19);
+        wrong("hall 2 5 4 2;kind a` 5 1 9", 1, 19);
+        wrong("hall 2 5 4 2;kind a 5: 1 9", 1, 21);
+        wrong("hall 2 5 4 2;kind a 5/ 1 9", 1, 21);
         wrong(";", 1, 0);
         wrong("hall", 1, 4);
         wrong("hall  ", 1, 6);

@@ -7,6 +7,7 @@ public final class LookTest {
         oldest();
         loser();
         waits();
+        oneEnd();
         raisers();
         Checks.close("LookTest");
     }
@@ -111,6 +112,13 @@ public final class LookTest {
         x.tick(2);
         Checks.due("promise 24: 2, 4, 6 and 3", x.meanWait(), 15.0 / 4.0);
         Checks.due("promise 25: 4 of 5", x.handledShare(), 4.0f / 5.0f);
+    }
+
+    private static void oneEnd() {
+        FadingSignals x = Checks.loaded("hall 1 0 50 12;kind a 50 1 200;program p;handle p a 1;send p a 1");
+        x.tick(1);
+        Checks.due("promise 24: the only one", x.meanWait(), 1.0);
+        Checks.due("promise 25: all", x.handledShare(), 1.0f);
     }
 
     private static void raisers() {

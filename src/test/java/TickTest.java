@@ -157,6 +157,20 @@ public final class TickTest {
         x.tick(1);
         Checks.due("depth: no third one", x.program(0, 1), 2);
         Checks.due("depth: it waits", x.whereIs(2), 0);
+        FadingSignals y = Checks.loaded("hall 4 0 50 9;kind a 10 0 99;kind b 20 0 99;kind c 30 0 99;kind d 40 0 99"
+                + ";kind e 50 0 99;program o;program p;handle p a 9;handle p b 9;handle p c 9;handle p d 3;handle p e 1");
+        for (int k = 0; k < 5; k++) {
+            y.send(1, k, 10 * k);
+            y.tick(1);
+        }
+        Checks.due("depth: four, not five", y.program(1, 1), 4);
+        for (int i = 0; i < 4; i++) {
+            Checks.due("depth: the stack", y.running(1, i, 4), 30 - 10 * i);
+        }
+        y.tick(1);
+        Checks.due("depth: the fourth one is handled", y.end(0, 0), 3);
+        y.tick(1);
+        Checks.due("depth: the fifth one has its turn", y.end(0, 0), 4);
     }
 
     private static void oneBeginsInATick() {
@@ -248,6 +262,11 @@ public final class TickTest {
         Checks.due("drop: all of the kind, by numbers", Checks.written(x, x.writeEnds()), "4d 2d 0d 1h");
         Checks.due("drop: not of another program", x.whereIs(3), 1);
         Checks.due("drop: not those that are raised behind it", x.whereIs(5), 0);
+        FadingSignals z = Checks.loaded("hall 2 0 50 9;kind a 10 0 99;kind b 9 0 99;kind c 50 0 99;program p"
+                + ";handle p a 1 drop b;hide p c;send p c 1;send p b 1;send p a 1;send p c 2;send p b 2;send p c 3");
+        z.tick(1);
+        Checks.due("drop: between others", Checks.written(z, z.writeEnds()), "4d 1d 2h");
+        Checks.due("drop: the others stay", Checks.written(z, z.writeQueue(0)), "0.c=1 3.c=2 5.c=3");
         FadingSignals y = Checks.loaded("hall 2 0 50 9;kind a 10 0 99;kind c 50 0 99;program p;handle p a 9"
                 + ";handle p c 1 drop a;send p a 1");
         y.tick(1);
