@@ -760,11 +760,15 @@ public final class FadingSignals {
         }
 
         private boolean isAt(int index, byte[] bytes, int from, int length) {
-            if (length != lengthOf(index) || from < 0 || from > bytes.length - length) {
+            if (index < 0 || index >= lengths.length || lengths[index] != length) {
+                return false;
+            }
+            int first = index * MAX_LETTERS;
+            if (first + length > letters.length || from < 0 || from > bytes.length - length) {
                 return false;
             }
             for (int i = 0; i < length; i++) {
-                if (letterOf(index, i) != bytes[from + i]) {
+                if (letters[first + i] != bytes[from + i]) {
                     return false;
                 }
             }
@@ -1433,25 +1437,21 @@ public final class FadingSignals {
             }
             for (int lines = 0; lines < length && error == 0 && token == SEMICOLON; lines++) {
                 advance();
-                readLine();
+                if (wordIs("kind")) {
+                    readKindLine();
+                } else if (wordIs("program")) {
+                    readProgramLine();
+                } else if (wordIs("handle")) {
+                    readHandleLine();
+                } else if (wordIs("hide")) {
+                    readHideLine();
+                } else if (wordIs("send")) {
+                    readSendLine();
+                } else {
+                    fail(WRONG_TOKEN);
+                }
             }
             if (token != TEXT_END) {
-                fail(WRONG_TOKEN);
-            }
-        }
-
-        private void readLine() {
-            if (wordIs("kind")) {
-                readKindLine();
-            } else if (wordIs("program")) {
-                readProgramLine();
-            } else if (wordIs("handle")) {
-                readHandleLine();
-            } else if (wordIs("hide")) {
-                readHideLine();
-            } else if (wordIs("send")) {
-                readSendLine();
-            } else {
                 fail(WRONG_TOKEN);
             }
         }

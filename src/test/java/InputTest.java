@@ -192,7 +192,10 @@ public final class InputTest {
             Checks.due("promise 3: a hall like new, behind two of them", Checks.told(x), want);
             Checks.load(x, busy);
         }
-        Checks.due("promise 3: the busy one, too", Checks.told(x), Checks.told(Checks.loaded(busy)));
+        FadingSignals fresh = Checks.loaded(busy);
+        Checks.due("promise 3: the busy one, too", Checks.told(x), Checks.told(fresh));
+        Checks.due("promise 3: it goes on like new", x.tick(9), fresh.tick(9));
+        Checks.due("promise 3: all that is told then", Checks.told(x), Checks.told(fresh));
     }
 
     /** Eight kinds and six programs, all with numbers of their own, and handlers of the last of them. */
