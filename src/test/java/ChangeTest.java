@@ -430,11 +430,11 @@ public final class ChangeTest {
         Checks.due("promise 49: in place of what was saved there", x.save(1), 6);
         x.restore(0);
         Checks.due("promise 50: the later one", x.restore(1), 6);
-        Checks.index("promise 49: slot below", () -> x.save(-1));
-        Checks.index("promise 49: slot above", () -> x.save(2));
-        Checks.index("promise 50: slot below", () -> x.restore(-1));
-        Checks.index("promise 50: slot above", () -> x.restore(2));
         FadingSignals y = Checks.loaded(TEXT);
+        Checks.index("promise 49: slot below", () -> y.save(-1));
+        Checks.index("promise 49: slot above", () -> y.save(2));
+        Checks.index("promise 50: slot below", () -> y.restore(-1));
+        Checks.index("promise 50: slot above", () -> y.restore(2));
         y.tick(1);
         y.save(0);
         Checks.state("promise 50: nothing is saved there", () -> y.restore(1));

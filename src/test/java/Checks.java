@@ -8,6 +8,7 @@ final class Checks {
 
     private static int wrong = 0;
     private static int made = 0;
+    private static String about = "";
 
     private Checks() {
     }
@@ -16,8 +17,17 @@ final class Checks {
         made++;
         if (!got.equals(want)) {
             wrong++;
-            System.out.println(what + " answered " + got + ", due is " + want);
+            System.out.println(about + what + " answered " + got + ", due is " + want);
         }
+    }
+
+    /** Tells what the next answers are about; it stands ahead of each that is not as due. */
+    static void about(String subject) {
+        about = subject;
+    }
+
+    static int made() {
+        return made;
     }
 
     /** Compares what a call answers, or the name of the exception that it throws. */
@@ -94,44 +104,72 @@ final class Checks {
         return text.toString();
     }
 
-    /** All that is told of a hall, in one text. */
+    /** The numbers of the signals of a queue, in the order. */
+    static String queue(FadingSignals x, int program) {
+        StringBuilder numbers = new StringBuilder();
+        for (int i = 0; i < x.program(program, 0); i++) {
+            numbers.append(i > 0 ? " " : "").append(x.queue(program, i, 0));
+        }
+        return numbers.toString();
+    }
+
+    /** The ends that can be told, the latest first: the number of the signal, a colon and the end. */
+    static String ends(FadingSignals x) {
+        StringBuilder ends = new StringBuilder();
+        for (int i = 0; i < x.count(13); i++) {
+            ends.append(i > 0 ? " " : "").append(x.end(i, 0)).append(':').append(x.end(i, 1));
+        }
+        return ends.toString();
+    }
+
+    /** A text must have an error: its code, a blank and its position. */
+    static void textError(String text, String want) {
+        FadingSignals x = new FadingSignals();
+        argument(text, () -> load(x, text));
+        due(text + ": the error", x.parseError() + " " + x.errorPosition(), want);
+    }
+
+    /** A text must have no error. */
+    static void textFine(String text) {
+        FadingSignals x = new FadingSignals();
+        Object got = outcome(() -> load(x, text));
+        due(text + " answered " + got + ", the error", x.parseError() + " " + x.errorPosition(), "0 -1");
+        due(text + " answered " + got, got instanceof Integer, true);
+    }
+
+    private interface Number {
+        int of(int index);
+    }
+
+    private static void numbers(StringBuilder all, int size, Number number) {
+        for (int i = 0; i < size; i++) {
+            all.append(number.of(i)).append(' ');
+        }
+        all.append("; ");
+    }
+
+    /** What is told of a hall, in one text; some two hundred calls, as an object has but 512. */
     static String told(FadingSignals x) {
         StringBuilder all = new StringBuilder();
-        for (int what = 0; what < 14; what++) {
-            all.append(x.count(what)).append(' ');
+        numbers(all, 14, what -> x.count(what));
+        numbers(all, 4, what -> x.setting(what));
+        int kinds = x.count(0);
+        for (int kind = 0; kind < kinds; kind++) {
+            int k = kind;
+            numbers(all, 3, what -> x.kind(k, what));
         }
-        for (int what = 0; what < 4; what++) {
-            all.append(x.setting(what)).append(' ');
+        int programs = x.count(1);
+        for (int program = 0; program < programs; program++) {
+            int p = program;
+            numbers(all, 8, what -> x.program(p, what));
+            numbers(all, kinds, k -> x.tiredness(p, k));
+            numbers(all, kinds, k -> x.handler(p, k, 0));
+            numbers(all, 5 * x.program(p, 0), i -> x.queue(p, i / 5, i % 5));
+            numbers(all, 5 * x.program(p, 1), i -> x.running(p, i / 5, i % 5));
         }
-        for (int k = 0; k < x.count(0); k++) {
-            all.append(x.kind(k, 0)).append(' ').append(x.kind(k, 1)).append(' ').append(x.kind(k, 2)).append(' ');
-        }
-        for (int p = 0; p < x.count(1); p++) {
-            for (int what = 0; what < 8; what++) {
-                all.append(x.program(p, what)).append(' ');
-            }
-            for (int k = 0; k < x.count(0); k++) {
-                all.append(x.tiredness(p, k)).append(' ');
-                for (int what = 0; what < 50; what++) {
-                    all.append(x.handler(p, k, what)).append(' ');
-                }
-            }
-            for (int i = 0; i < x.program(p, 0); i++) {
-                for (int what = 0; what < 5; what++) {
-                    all.append(x.queue(p, i, what)).append(' ');
-                }
-            }
-            for (int i = 0; i < x.program(p, 1); i++) {
-                for (int what = 0; what < 5; what++) {
-                    all.append(x.running(p, i, what)).append(' ');
-                }
-            }
-        }
-        for (int i = 0; i < x.count(13); i++) {
-            for (int what = 0; what < 5; what++) {
-                all.append(x.end(i, what)).append(' ');
-            }
-        }
+        int ends = x.count(13);
+        numbers(all, 5 * Math.min(5, ends), i -> x.end(i / 5, i % 5));
+        numbers(all, 2 * ends, i -> x.end(i / 2, i % 2));
         return all.append(x.meanWait()).append(' ').append(x.handledShare()).toString();
     }
 }

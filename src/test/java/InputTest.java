@@ -10,7 +10,6 @@ public final class InputTest {
         loading();
         failedLoading();
         freshAfterLoading();
-        freshAfterManyLoadings();
         fullHouse();
         tokens();
         wrongTokens();
@@ -166,38 +165,6 @@ public final class InputTest {
         Checks.due("promise 3: no NAME of the first hall", Checks.find(x, true, "a"), -1);
     }
 
-    /** Whatever was loaded and done before, a loaded hall is that of a new object. */
-    private static void freshAfterManyLoadings() {
-        String busy = "hall 4 0 2 2;kind a 5 1 9;kind b 9 9 9;program p;program q;handle p a 1 mask a raise a q 5"
-                + ";handle p b 5 drop a;handle q a 7;hide q b;send p a 3;send p a 4;send p a 5;send q a 1;send p b 1";
-        String other = "hall 1 9 7 3;kind c 44 4 4;kind d 1 0 1;program r;program s;send r d 9";
-        String want = Checks.told(Checks.loaded(other));
-        FadingSignals x = Checks.loaded(busy);
-        for (int i = 0; i < 3; i++) {
-            x.tick(3);
-            x.send(0, 0, 1);
-            x.endIn(x.count(4) - 1);
-            Checks.argument("promise 3: a failure", () -> Checks.load(x, busy + ";"));
-            Checks.load(x, other);
-            Checks.due("promise 3: a hall like new, behind a failure", Checks.told(x), want);
-            Checks.load(x, busy);
-            x.tick(3);
-            x.calmIn();
-            Checks.load(x, other);
-            Checks.due("promise 3: a hall like new, behind what would be", Checks.told(x), want);
-            Checks.load(x, busy);
-            x.tick(3);
-            Checks.load(x, other);
-            Checks.load(x, other);
-            Checks.due("promise 3: a hall like new, behind two of them", Checks.told(x), want);
-            Checks.load(x, busy);
-        }
-        FadingSignals fresh = Checks.loaded(busy);
-        Checks.due("promise 3: the busy one, too", Checks.told(x), Checks.told(fresh));
-        Checks.due("promise 3: it goes on like new", x.tick(9), fresh.tick(9));
-        Checks.due("promise 3: all that is told then", Checks.told(x), Checks.told(fresh));
-    }
-
     /** Eight kinds and six programs, all with numbers of their own, and handlers of the last of them. */
     private static void fullHouse() {
         StringBuilder text = new StringBuilder(HEAD);
@@ -263,8 +230,8 @@ public final class InputTest {
         fine("hall 1 0 1 1");
         fine("hall 1 0 1 1;kind zabcdyz 9 9 9;program azbycxz");
         fine("hall 4 50 50 12");
-        fine(HEAD + ";kind kind 1 0 1;kind raise 99 20 200;kind mask 5 5 5;program program;program hall"
-                + ";handle hall raise 20 raise mask program 999 mask raise unmask kind drop mask;hide hall mask"
+        fine(HEAD + ";kind kind 1 0 1;kind raise 99 20 200;kind mask 5 5 5;program program;program hall;handle hall"
+                + " raise 20 raise mask program 999 mask raise unmask kind drop mask;hide hall mask"
                 + ";send hall kind 000;send program raise 999");
         fine(HEAD + ";kind a 1 0 1;program a;handle a a 1 raise a a 0");
         fine(BOTH + ";handle p a 1 mask a mask a mask a mask a;hide p a");

@@ -14,11 +14,11 @@ public final class ModelTest {
     }
 
     public static void main(String[] args) {
-        int runs = args.length > 0 ? Integer.parseInt(args[0]) : 400;
+        int runs = args.length > 0 ? Integer.parseInt(args[0]) : 8000;
         for (int run = 0; run < runs; run++) {
             oneRun(run);
         }
-        for (int i = 0; i < 10 * runs; i++) {
+        for (int i = 0; i < runs; i++) {
             oneBrokenText(i);
         }
         Checks.close("ModelTest");
@@ -29,27 +29,36 @@ public final class ModelTest {
     private static FadingSignals x;
     private static Model m;
     private static String label;
+    /** The calls that are left to the object: it has but 512. */
+    private static int left;
+    /** How many of a hundred calls are made. */
+    private static int share;
 
-    private static void oneRun(int run) {
+    private static void fresh(String name) {
         x = new FadingSignals();
         m = new Model();
-        label = "run " + run;
+        label = name;
+        left = 512;
+        share = 100;
+    }
+
+    private static void oneRun(int run) {
+        fresh("run " + run);
         if (chance(10)) {
             oneCall();
             oneCall();
         }
         load(drawText());
-        wholeHandlers();
-        for (int call = 0; call < 250; call++) {
+        wholeHandlers(60);
+        for (int call = 0; call < 500 && left > 100; call++) {
             label = "run " + run + " call " + call;
             oneCall();
         }
+        whole(100);
     }
 
     private static void oneBrokenText(int i) {
-        x = new FadingSignals();
-        m = new Model();
-        label = "broken text " + i;
+        fresh("broken text " + i);
         StringBuilder text = new StringBuilder(drawText());
         int breaks = 1 + draw(2);
         for (int b = 0; b < breaks; b++) {
@@ -57,8 +66,8 @@ public final class ModelTest {
         }
         load(text.toString());
         if (m.state != null) {
-            whole();
-            wholeHandlers();
+            whole(200);
+            wholeHandlers(200);
         }
     }
 
@@ -156,6 +165,10 @@ public final class ModelTest {
     }
 
     private static void same(String call, Checks.Call program, Checks.Call model) {
+        if (left == 0 || share < 100 && !chance(share)) {
+            return;
+        }
+        left--;
         Checks.due(label + ": " + call, Checks.outcome(program), Checks.outcome(model));
     }
 
@@ -185,7 +198,7 @@ public final class ModelTest {
             oneLook();
         }
         if (chance(8)) {
-            whole();
+            whole(30);
         }
     }
 
@@ -309,10 +322,12 @@ public final class ModelTest {
                 break;
         }
         same("textByte " + i, () -> x.textByte(i), () -> m.textByte(i));
+        share = Math.min(100, 3000 / (m.text.length() + 1));
         for (int at = 0; at <= m.text.length(); at++) {
             int index = at;
             same("textByte " + at, () -> x.textByte(index), () -> m.textByte(index));
         }
+        share = 100;
     }
 
     private static void input(int k, int i) {
@@ -336,8 +351,9 @@ public final class ModelTest {
         }
     }
 
-    /** Compares all that is told of the hall at once. */
-    private static void whole() {
+    /** Compares what is told of the hall: so many calls or about, drawn from all that could be asked. */
+    private static void whole(int calls) {
+        share = Math.min(100, Math.max(1, 100 * calls / (300 + 7 * kinds + 200 * programs)));
         for (int w = -1; w <= 14; w++) {
             int what = w;
             same("count " + w, () -> x.count(what), () -> m.count(what));
@@ -365,9 +381,11 @@ public final class ModelTest {
         for (int p = -1; p <= programs; p++) {
             wholeProgram(p);
         }
+        share = 100;
     }
 
-    private static void wholeHandlers() {
+    private static void wholeHandlers(int calls) {
+        share = Math.min(100, Math.max(1, 100 * calls / (52 * (kinds + 2) * (programs + 2))));
         for (int i = -1; i <= programs; i++) {
             int p = i;
             for (int j = -1; j <= kinds; j++) {
@@ -378,6 +396,7 @@ public final class ModelTest {
                 }
             }
         }
+        share = 100;
     }
 
     private static void wholeProgram(int p) {

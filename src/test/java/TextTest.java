@@ -77,32 +77,17 @@ public final class TextTest {
     }
 
     private static void longNumbers() {
-        // Six programs that send four signals in every tick: numbers of six digits, the longest text of ends.
-        StringBuilder text = new StringBuilder("hall 1 0 1 12;kind a 99 0 200");
-        for (char p = 'a'; p < 'g'; p++) {
-            text.append(";program ").append(p).append(";handle ").append(p).append(" a 1");
-            for (int act = 0; act < 4; act++) {
-                text.append(" raise a ").append(p).append(" 1");
-            }
-        }
-        for (char p = 'a'; p < 'g'; p++) {
-            text.append(";send ").append(p).append(" a 1");
-        }
-        FadingSignals x = Checks.loaded(text.toString());
-        for (int i = 0; i < 49; i++) {
-            x.tick(200);
-        }
-        x.tick(199);
+        FadingSignals x = TextBounds.manySent();
         Checks.due("signals sent in 9999 ticks", x.count(4), 6 + 24 * 9999);
         Checks.due("promise 37: the longest text", x.writeEnds(), 40 * 8 - 1);
         String ends = Checks.written(x, 319);
         Checks.due("promise 37: its first end", ends.substring(0, 7), (6 + 24 * 9999 - 1) + "q");
         Checks.due("promise 37: its last end", ends.substring(312), x.end(39, 0) + "" + "hfaqnd".charAt(x.end(39, 1)));
-        int length = x.writeQueue(5);
-        String queue = Checks.written(x, length);
+        FadingSignals y = TextBounds.manySent();
+        String queue = Checks.written(y, y.writeQueue(5));
         Checks.due("promise 35: twelve signals", queue.split(" ").length, 12);
-        Checks.due("promise 35: the first of them", queue.split(" ")[0], x.queue(5, 0, 0) + ".a=" + x.queue(5, 0, 3));
-        Checks.due("promise 35: the last of them", queue.split(" ")[11], x.queue(5, 11, 0) + ".a=" + x.queue(5, 11, 3));
+        Checks.due("promise 35: the first of them", queue.split(" ")[0], y.queue(5, 0, 0) + ".abcdefg=999");
+        Checks.due("promise 35: the last of them", queue.split(" ")[11], y.queue(5, 11, 0) + ".abcdefg=999");
     }
 
     private static void bytes() {
