@@ -24,14 +24,21 @@ final class ChangeBounds {
         restore();
     }
 
-    /** The call is a change: one more can be undone, and then all is as it was. */
+    /** The call is a change: one more can be undone, and then all is as it was; the input and the text stay. */
     private static void isChange(Refusals.On call) {
         FadingSignals x = Refusals.sample();
+        String beside = beside(x);
         Object got = Checks.outcome(() -> call.answer(x));
         Checks.due("answered by " + got, got instanceof String, false);
         Checks.due("one more can be undone", x.undoable(), Refusals.CHANGES + 1);
+        Checks.due("the buffer, the error and the text stay", beside(x), beside);
         Checks.due("undone", x.undo(), Refusals.CHANGES);
         Checks.due("all is as it was", Checks.told(x), Checks.told(Refusals.sample()));
+        Checks.due("the buffer, the error and the text stay", beside(x), beside);
+    }
+
+    private static String beside(FadingSignals x) {
+        return x.buffered() + " " + x.parseError() + " " + x.errorPosition() + " " + x.textByte(0);
     }
 
     private static void tick() {

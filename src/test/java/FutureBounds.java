@@ -157,8 +157,7 @@ final class FutureBounds {
         Document.holds("Returns the end that it has then;", () -> {
             FadingSignals x = Checks.loaded("hall 1 0 50 3;kind a 9 9 99;kind b 8 0 2;kind c 7 0 99;program p;program"
                     + " q;handle p a 1 drop b raise b q 0;hide q b;hide q c;send p a 0;send p b 0;send q b 0;send q c"
-                    + " 0;send p a 0"
-                    + ";send q a 0");
+                    + " 0;send p a 0;send q a 0");
             int[] want = {0, 5, 2, 3, 1, 4};
             for (int signal = 0; signal < 6; signal++) {
                 Checks.due("signal " + signal, x.endOf(signal), want[signal]);
@@ -198,8 +197,8 @@ final class FutureBounds {
         Document.holds("end: 0 to 5", () -> {
             FadingSignals x = Checks.loaded("hall 1 0 50 5;kind a 9 9 99;kind b 8 0 2;kind c 7 0 99;program p;program"
                     + " q;handle p a 1 drop c raise b q 0 raise b q 0 raise b q 0;hide q b;hide q c;hide p c;send p a"
-                    + " 0;send p a 0"
-                    + ";send p a 0;send p c 0;send p c 0;send q b 0;send q c 0;send q a 0;send q a 0;send q c 0");
+                    + " 0;send p a 0;send p a 0;send p c 0;send p c 0;send q b 0;send q c 0;send q a 0;send q a 0;send"
+                    + " q c 0");
             int[][] want = {{0, 0, 0, 0, 0, 0}, {1, 0, 0, 3, 2, 2}, {1, 2, 1, 3, 2, 2}};
             for (int ticks = 0; ticks < 3; ticks++) {
                 for (int end = 0; end < 6; end++) {
@@ -297,6 +296,9 @@ final class FutureBounds {
             x.send(0, 1, 0);
             Checks.due("only those that are sent to this program", x.bestMask(0), 1);
             Checks.due("the other one", x.bestMask(1), 0);
+            FadingSignals y = Checks.loaded("hall 1 0 50 12;kind a 9 0 99;kind b 8 0 99;program p;program q;handle p a"
+                    + " 1 raise b q 0;send p a 0;send p b 0");
+            Checks.due("not those that it sends to another one", y.bestMask(0), 1);
         });
         Document.holds("within 50 ticks", () -> {
             FadingSignals x = Checks.loaded("hall 1 0 50 12;kind a 9 0 50;kind b 8 0 51;program p;program q;send p a 0"

@@ -118,28 +118,37 @@ final class InputBounds {
 
     /** However often halls were loaded, used and refused before, nothing of them is left in the one that is loaded. */
     private static void replaced() {
+        for (int times = 1; times <= 4; times++) {
+            replacedBehind(times, false);
+            replacedBehind(times, true);
+        }
+    }
+
+    private static void replacedBehind(int times, boolean refused) {
         String used = "hall 4 9 9 9;kind b 5 5 5;kind c 5 5 5;program q;program r;handle q b 1 mask b raise c r 7"
                 + ";handle q c 9 drop c;hide r c;send q b 1;send q c 1;send r c 2";
-        for (int times = 1; times <= 4; times++) {
-            FadingSignals x = new FadingSignals();
-            for (int i = 0; i < times; i++) {
-                Checks.load(x, used);
-                x.tick(7);
-                x.send(0, 0, 0);
-                x.endIn(4);
+        FadingSignals x = new FadingSignals();
+        for (int i = 0; i < times; i++) {
+            Checks.load(x, used);
+            x.tick(7);
+            x.send(0, 0, 0);
+            x.endIn(4);
+            if (refused) {
                 Checks.argument("a failure", () -> Checks.load(x, used + ";"));
             }
-            Checks.load(x, TEXT);
-            Checks.due("the time", x.count(3), 0);
-            FadingSignals fresh = Checks.loaded(TEXT);
-            Checks.due("all is that of the new one", Checks.told(x), Checks.told(fresh));
-            Checks.due("the names, too", Checks.find(x, true, "b") + Checks.find(x, false, "q"), -2);
-            Checks.due("and those of the new one", Checks.find(x, true, "a") + Checks.find(x, false, "p"), 0);
-            x.send(0, 0, 5);
-            fresh.send(0, 0, 5);
-            Checks.due("it goes on like a new one", x.tick(1), fresh.tick(1));
-            Checks.due("all is like that", Checks.told(x), Checks.told(fresh));
         }
+        String next = TEXT + ";handle p a 2";
+        Checks.load(x, next);
+        Checks.due("the time", x.count(3), 0);
+        FadingSignals fresh = Checks.loaded(next);
+        Checks.due("all is that of the new one", Checks.told(x), Checks.told(fresh));
+        Checks.due("it has no acts", x.handler(0, 0, 1), 0);
+        Checks.due("the names, too", Checks.find(x, true, "b") + Checks.find(x, false, "q"), -2);
+        Checks.due("and those of the new one", Checks.find(x, true, "a") + Checks.find(x, false, "p"), 0);
+        x.send(0, 0, 5);
+        fresh.send(0, 0, 5);
+        Checks.due("it goes on like a new one", x.tick(2), fresh.tick(2));
+        Checks.due("all is like that", Checks.told(x), Checks.told(fresh));
     }
 
     private static void loadErrors() {

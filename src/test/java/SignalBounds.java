@@ -210,11 +210,7 @@ final class SignalBounds {
 
     private static void fortyEnds() {
         for (int ends : new int[] {0, 1, 39, 40, 41, 80, 81, 121}) {
-            FadingSignals x = Checks.loaded("hall 1 0 50 2;kind a 10 0 99;program p");
-            for (int signal = 0; signal < ends; signal++) {
-                x.send(0, 0, 0);
-                x.drop(signal);
-            }
+            FadingSignals x = TellBounds.manyEnds(ends);
             int told = Math.min(ends, 40);
             Checks.due(ends + " ends, those that can be told", x.count(13), told);
             Checks.due(ends + " ends, all are counted", x.count(12) + " " + x.program(0, 7), ends + " " + ends);

@@ -493,7 +493,8 @@ final class TellBounds {
         Document.holds(WHAT, () -> Refusals.outOfRange(0, 4, (x, what) -> x.end(0, what)));
     }
 
-    private static FadingSignals manyEnds(int ends) {
+    /** So many signals were sent and dropped, one behind the other. */
+    static FadingSignals manyEnds(int ends) {
         FadingSignals x = Checks.loaded("hall 1 0 50 12;kind a 9 0 9;program p");
         for (int signal = 0; signal < ends; signal++) {
             x.send(0, 0, 0);

@@ -124,13 +124,8 @@ final class TextBounds {
                 + " latest first:",
                 () -> {
                     for (int ends : new int[] {0, 1, 2, 39, 40, 41, 100}) {
-                        FadingSignals x = Checks.loaded("hall 1 0 50 12;kind a 9 0 9;program p");
-                        x.writeQueue(0);
+                        FadingSignals x = TellBounds.manyEnds(ends);
                         StringBuilder want = new StringBuilder();
-                        for (int i = 0; i < ends; i++) {
-                            x.send(0, 0, 0);
-                            x.drop(i);
-                        }
                         for (int i = ends - 1; i >= 0 && i >= ends - 40; i--) {
                             want.append(want.length() > 0 ? " " : "").append(i).append('d');
                         }

@@ -38,6 +38,10 @@ final class TickBounds {
                     + " 0");
             y.tick(1);
             Checks.due("from the first to the last", Checks.ends(y), "0:4 1:4 2:4 3:4 4:4 5:4");
+            FadingSignals z = Checks.loaded("hall 1 0 50 1;kind a 9 0 9;kind b 8 0 1;program p;program q;handle p a 1"
+                    + " raise a q 0;send q b 0;send p a 0");
+            z.tick(1);
+            Checks.due("all of the first one ahead of the ages of the second", Checks.ends(z), "2:4 0:3 1:0");
         });
     }
 
@@ -118,6 +122,9 @@ final class TickBounds {
                 x.tick(1);
                 Checks.due("hidden:" + hidden[i], x.program(0, 1) == 0 ? -1 : x.running(0, 0, 0), begins[i]);
             }
+            FadingSignals same = Checks.loaded(text + ";send p c 0;send p b 0;send p b 0;hide p a");
+            same.tick(1);
+            Checks.due("of several the smallest number", same.running(0, 0, 0), 1);
             FadingSignals empty = Checks.loaded(text);
             Checks.due("an empty queue", empty.tick(1) + empty.program(0, 1), 0);
         });
