@@ -1,6 +1,8 @@
 /** Boundary cases of the promises 1 to 7: the input. */
 final class InputBounds {
     private static final String TEXT = "hall 1 0 1 1;kind a 9 0 9;program p";
+    private static final String USED = "hall 4 9 9 9;kind b 5 5 5;kind c 5 5 5;program q;program r;handle q b 1 mask b"
+            + " raise c r 7;handle q c 9 drop c;hide r c;send q b 1;send q c 1;send r c 2";
 
     private InputBounds() {
     }
@@ -119,23 +121,20 @@ final class InputBounds {
     /** However often halls were loaded, used and refused before, nothing of them is left in the one that is loaded. */
     private static void replaced() {
         for (int times = 1; times <= 4; times++) {
-            replacedBehind(times, false);
-            replacedBehind(times, true);
+            replacedBehind(times, x -> x.undoable());
+            replacedBehind(times, x -> x.endIn(4));
+            replacedBehind(times, x -> x.bestMask(1));
+            replacedBehind(times, x -> Checks.load(x, USED + ";"));
         }
     }
 
-    private static void replacedBehind(int times, boolean refused) {
-        String used = "hall 4 9 9 9;kind b 5 5 5;kind c 5 5 5;program q;program r;handle q b 1 mask b raise c r 7"
-                + ";handle q c 9 drop c;hide r c;send q b 1;send q c 1;send r c 2";
+    private static void replacedBehind(int times, Refusals.On lastCall) {
         FadingSignals x = new FadingSignals();
         for (int i = 0; i < times; i++) {
-            Checks.load(x, used);
+            Checks.load(x, USED);
             x.tick(7);
             x.send(0, 0, 0);
-            x.endIn(4);
-            if (refused) {
-                Checks.argument("a failure", () -> Checks.load(x, used + ";"));
-            }
+            Checks.outcome(() -> lastCall.answer(x));
         }
         String next = TEXT + ";handle p a 2";
         Checks.load(x, next);
