@@ -27,6 +27,7 @@ public final class FaceTest {
 
     public static void main(String[] args) throws IOException {
         face();
+        faceOfTheDocument();
         source();
         wildArguments();
         Checks.close("FaceTest");
@@ -58,6 +59,22 @@ public final class FaceTest {
         Checks.due("the class is public and final", FadingSignals.class.getModifiers(),
                 Modifier.PUBLIC | Modifier.FINAL);
         inside(names);
+    }
+
+    /** Each line of the document's face stands in the class as it is, with its names and its exceptions. */
+    private static void faceOfTheDocument() throws IOException {
+        String document = Files.readString(Path.of("../shared/DOC.md"), StandardCharsets.UTF_8);
+        String program = Files.readString(Path.of("src/main/java/FadingSignals.java"), StandardCharsets.ISO_8859_1)
+                .replaceAll("\\s+", " ");
+        int lines = 0;
+        for (String line : document.split("```")[1].split("\n")) {
+            if (line.startsWith("    public ") || line.startsWith("public ")) {
+                lines++;
+                String due = line.trim().replaceAll(";$", line.contains("(") ? " {" : ";");
+                Checks.due("the class has: " + due, program.contains(" " + due), true);
+            }
+        }
+        Checks.due("lines of the document's face", lines, 52);
     }
 
     private static void inside(TreeSet<String> publicNames) {
